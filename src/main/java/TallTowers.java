@@ -331,7 +331,7 @@ public final class TallTowers {
 
     public long would(int first, int last, int shown, int loss, int insurer) throws IllegalArgumentException {
         needRight(areHarmYears(first, last, shown) && isAmount(loss) && isInsurer(insurer));
-        spreader.plan(live, NEW_HARM, setOffNow(first, last, shown), loss);
+        spreader.plan(live, NEW_HARM, setOffNow(first, last, shown), loss, live.spread);
         return spreader.real.borne[insurer];
     }
 
@@ -339,13 +339,13 @@ public final class TallTowers {
             throws NoSuchElementException, IllegalArgumentException {
         needThere(isLayer(layer));
         needRight(areHarmYears(first, last, shown) && isAmount(loss));
-        spreader.plan(live, NEW_HARM, setOffNow(first, last, shown), loss);
+        spreader.plan(live, NEW_HARM, setOffNow(first, last, shown), loss, live.spread);
         return spreader.real.taken[layer];
     }
 
     public long drops(int first, int last, int shown, int loss, int reason) throws IllegalArgumentException {
         needRight(areHarmYears(first, last, shown) && isAmount(loss) && isReason(reason));
-        spreader.plan(live, NEW_HARM, setOffNow(first, last, shown), loss);
+        spreader.plan(live, NEW_HARM, setOffNow(first, last, shown), loss, live.spread);
         return spreader.real.reasons[reason];
     }
 
@@ -493,12 +493,8 @@ public final class TallTowers {
             throws NoSuchElementException, IllegalArgumentException {
         needThere(isLayer(layer));
         needRight(areHarmYears(first, last, shown) && isAmount(loss));
-        int years = setOffNow(first, last, shown);
-        spreader.weighAlike(live.towers, years);
-        spreader.payByWeights(live, NEW_HARM, loss, spreader.fair);
-        spreader.measureRooms(live, NEW_HARM, years);
-        spreader.payInTurn(live, NEW_HARM, loss);
-        return spreader.real.taken[layer] - spreader.fair.taken[layer];
+        spreader.plan(live, NEW_HARM, setOffNow(first, last, shown), loss, IN_TURN);
+        return spreader.excesses[layer] - spreader.debts[layer];
     }
 
     public int widest(int year, int what) throws IllegalArgumentException {
@@ -785,7 +781,7 @@ public final class TallTowers {
         }
 
         int lowestFrom(int year) {
-            return fromOf[layerAt(year, 0)];
+            return fromOf[rungs[year * RUNGS]];
         }
 
         long leftOf(int layer) {
@@ -1096,7 +1092,7 @@ public final class TallTowers {
             long amount = amountToSpread(log, k);
             if (amount > 0) {
                 int years = yearsSetOff(harms.first[harm], harms.last[harm], harms.shown[harm], trigger);
-                spreader.plan(this, harm, years, amount);
+                spreader.plan(this, harm, years, amount, spread);
                 keep(spreader.real, harm);
             }
             return true;
@@ -1345,9 +1341,9 @@ public final class TallTowers {
         final long[] debts = new long[LAYERS];
         final long[] moves = new long[LAYERS];
 
-        /** What comes of an amount, as told in real, by the rules of the book. */
-        void plan(Book book, int harm, int years, long amount) {
-            switch (book.spread) {
+        /** What comes of an amount that is spread over years, as told in real. */
+        void plan(Book book, int harm, int years, long amount, int spread) {
+            switch (spread) {
                 case ALIKE:
                     weighAlike(book.towers, years);
                     payByWeights(book, harm, amount, real);
@@ -1360,6 +1356,7 @@ public final class TallTowers {
                     weighAlike(book.towers, years);
                     payByWeights(book, harm, amount, fair);
                     measureRooms(book, harm, years);
+                    orderYears(book);
                     payInTurn(book, harm, amount);
                     contribute(book.towers.count);
                     break;
@@ -1395,7 +1392,7 @@ public final class TallTowers {
             }
         }
 
-        void payByWeights(Book book, int harm, long amount, Outcome outcome) {
+        private void payByWeights(Book book, int harm, long amount, Outcome outcome) {
             outcome.clear();
             shareOut(amount, weights, YEARS, parts);
             long rest = amount;
@@ -1446,10 +1443,9 @@ public final class TallTowers {
             }
         }
 
-        /** Fills one open year after another, whose rooms were measured; nothing is moved by that yet. */
-        void payInTurn(Book book, int harm, long amount) {
+        /** Fills one open year after another, in the order they have by now; nothing is moved by that yet. */
+        private void payInTurn(Book book, int harm, long amount) {
             real.clear();
-            orderYears(book);
             long rest = amount;
             for (int i = 0; i < openCount && rest > 0; i++) {
                 rest = real.fill(book, harm, open[i], rest);
