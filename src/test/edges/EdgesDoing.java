@@ -26,6 +26,12 @@ final class EdgesDoing {
     Script.on(1, "No LAYERS, no HARMS, no EVENTS").is("told(0)", 0).is("told(1)", 0).is("told(2)", 0).is("told(3)", 0);
   }
 
+  static void promise01_the512thCall() {
+    Script s = new Script("promise 1: used for 512 calls").go("harm(0, 0, 0, 1)").go(Desks.times(159, "grow(0, 1)"));
+    for (int k = 0; k < 350; k++) s.is("event(" + k % 160 + ", 0)", k % 160 == 0 ? 4 : 5);
+    s.is("back()", 159).is("damage(0, 3)", 159);
+  }
+
   // ---- promise 2
 
   static void promise02_number() {

@@ -54,6 +54,20 @@ final class EdgesGoneOver {
         "harm(0, 1, 1, 10)").is("best(0, 0)", 0).is("best(0, 1)", 2).is("best(0, 2)", 2).is("best(0, 3)", 0);
   }
 
+  static void promise36_bySpread3() {
+    // Alike 3 of a gap, 3 and 3, of which nothing is signed; in turn 6 and 3, by level 5 and 4: 1 and 1 are signed of these.
+    new Script("promise 36: SPREAD 3 alone").go("place(1, 0, 6, 1)", "place(2, 0, 6, 1)", "sign(0, 2, 3)", "sign(1, 2, 3)", "harm(0, 2, 2, 9)")
+        .is("other(0, 0, 0, 0)", 9).is("other(0, 2, 0, 0)", 8).is("other(0, 2, 3, 0)", 8).is("other(1, 3, 0, 0)", 8)
+        .is("best(0, 0)", 0).is("best(0, 1)", 3).is("best(0, 2)", 0).is("best(0, 3)", 7);
+  }
+
+  static void promise36_byTrigger3() {
+    // Over years 0 and 2, the most room first: 5 in the hole, 6, and 1. By sizes one is above; year 1 would have a hole, too.
+    new Script("promise 36: TRIGGER 3 alone").go("place(0, 0, 1, 1)", "place(1, 1, 5, 1)", "place(2, 5, 6, 1)", "sign(0, 1, 10)",
+        "sign(1, 2, 10)", "sign(2, 3, 10)", "harm(0, 0, 2, 12)").is("other(3, 0, 0, 0)", 10).is("other(3, 1, 0, 0)", 6)
+        .is("other(2, 2, 0, 0)", 6).is("best(0, 0)", 3).is("best(0, 1)", 2).is("best(0, 2)", 0).is("best(0, 3)", 5);
+  }
+
   static void promise36_refused() {
     rich(36, WRONG).bounds("best(#, 3)", 0, 9).bounds("best(0, #)", 0, 3).bounds("best(9, #)", 0, 3).is("status(1)", 12);
     Script.on(36, WRONG).bounds("best(#, 0)", 0, 9).bounds("best(0, #)", 0, 3);
@@ -107,6 +121,11 @@ final class EdgesGoneOver {
         .go("place(0, 0, 10, 4)", "sign(0, 1, 5)", "sign(0, 9, 5)", "harm(0, 0, 0, 4)", "settle(1, 3)", "settle(9, 0)", "harm(0, 0, 0, 10)")
         .is("spared(1)", 5 - 3).is("spared(9)", 5).go("reopen(0)").is("spared(1)", 7 - 3).is("spared(9)", 7)
         .go("settle(5, 1000000000)").is("spared(5)", -1000000000);
+  }
+
+  static void promise39_firstEvent() {
+    new Script("promise 39: settled ahead of all").go("settle(1, 3)", "place(0, 0, 10, 4)", "sign(0, 1, 5)", "harm(0, 0, 0, 10)")
+        .is("insurer(1, 0)", 0).is("spared(1)", 5 - 3).is("back()", 3).is("spared(1)", -3);
   }
 
   static void promise39_notSettled() {
@@ -192,6 +211,17 @@ final class EdgesGoneOver {
         .go("place(0, 0, 10, 1)", "sign(0, 1, 10)", "harm(0, 0, 0, 4)", "harm(0, 0, 0, 10)", "grow(0, 6)", "reopen(1)", "reopen(0)")
         .is("insurer(1, 0)", 10).is("heaviest(1, 0)", 0).is("heaviest(1, 1)", 10).is("heaviest(0, 0)", 0).is("heaviest(0, 1)", 0)
         .is("back()", 6).is("back()", 5).is("heaviest(0, 1)", 0);
+  }
+
+  static void promise43_firstEvent() {
+    new Script("promise 43: a harm ahead of all").go("harm(3, 3, 3, 4)", "place(0, 0, 10, 1)", "harm(0, 0, 0, 3)").is("heaviest(0, 0)", 0)
+        .is("heaviest(0, 1)", 3).go("grow(1, 2)").is("heaviest(0, 0)", 1).is("heaviest(0, 1)", 4);
+  }
+
+  static void promise43_twentyFour() {
+    Script s = new Script("promise 43: the last of 24 harms").go("place(0, 0, 10, 4)").go(Desks.times(23, "harm(0, 0, 0, 1)"))
+        .go("harm(0, 0, 0, 2)").is("heaviest(0, 0)", 23).is("heaviest(0, 1)", 23).is("insurer(0, 0)", 25).is("rank(0)", 0);
+    s.is("without(24, 0)", 23).is("undone(24)", 0).is("after(24, 0)", 25).is("after(23, 0)", 23);
   }
 
   static void promise43_noHarms() {

@@ -148,7 +148,8 @@ final class EdgesSeen {
 
   static void promise16_together() {
     Script.on(16, "3 SIZES together, 4 HOLES together, 5 USED together, 6 LEFT together")
-        .go("place(1, 500, 50, 2)", "place(1, 100, 30, 1)", "harm(1, 1, 1, 130)").is("year(1, 3)", 80).is("year(1, 4)", 470)
+        .go("place(1, 500, 50, 2)").is("year(1, 3)", 50).is("year(1, 4)", 500).is("year(1, 5)", 0).is("year(1, 6)", 100)
+        .go("place(1, 100, 30, 1)", "harm(1, 1, 1, 130)").is("year(1, 3)", 80).is("year(1, 4)", 470)
         .is("year(1, 5)", 30).is("year(1, 6)", 100).go("grow(0, 371)").is("year(1, 5)", 31).is("year(1, 6)", 99)
         .is("year(2, 3)", 0).is("year(2, 4)", 0).is("year(2, 5)", 0).is("year(2, 6)", 0)
         .go("place(1, 0, 100, 1)").is("year(1, 4)", 370);

@@ -307,6 +307,13 @@ final class EdgesTerms {
         .go("rules(0, 1, 0)").is("drops(0, 2, 2, 10, 3)", 3).is("drops(0, 2, 2, 11, 3)", 3).is("drops(0, 2, 2, 12, 3)", 4);
   }
 
+  static void terms2_spread1GapsAtBothEnds() {
+    terms("of a GAP these of all that are no GAPS together").go("place(1, 0, 3, 1)", "place(10, 0, 8, 1)")
+        .is("weight(0, 1, 1, 0)", 3).is("weight(0, 11, 11, 0)", 5).is("weight(0, 11, 11, 11)", 5).is("weight(10, 11, 11, 11)", 8)
+        .is("weight(0, 10, 10, 0)", 5).is("weight(0, 0, 0, 0)", 1).is("weight(11, 11, 11, 11)", 1)
+        .go("rules(0, 1, 0)").is("drops(0, 1, 1, 4, 3)", 2).is("takes(0, 1, 1, 4, 0)", 2).is("drops(10, 11, 11, 4, 3)", 2);
+  }
+
   static void terms2_spread1AllGaps() {
     terms("1 each, if all are GAPS").go("place(0, 0, 50, 1)", "lack(2)", "rules(0, 1, 0)")
         .is("weight(1, 4, 4, 1)", 1).is("weight(1, 4, 4, 2)", 0).is("weight(1, 4, 4, 3)", 1).is("weight(1, 4, 4, 4)", 1)
@@ -335,6 +342,12 @@ final class EdgesTerms {
         .is("uneven(0, 2, 2, 10, 0)", 10 - 4).is("uneven(0, 2, 2, 10, 1)", -3)
         .is("uneven(0, 2, 2, 11, 1)", 1 - 3).is("drops(0, 2, 2, 20, 2)", 0).is("drops(0, 2, 2, 21, 2)", 1)
         .is("drops(0, 2, 2, 20, 3)", 0).is("drops(0, 2, 2, 1000000000, 2)", 999999980);
+  }
+
+  static void terms2_spread2OverOfOne() {
+    terms("OVER of the last one: ABOVE").go("place(3, 0, 10, 1)", "rules(0, 2, 0)").is("drops(3, 3, 3, 10, 2)", 0)
+        .is("drops(3, 3, 3, 11, 2)", 1).is("drops(3, 3, 3, 11, 3)", 0).is("drops(2, 4, 4, 11, 2)", 1).is("drops(2, 4, 4, 11, 3)", 0)
+        .go("harm(3, 3, 3, 10)").is("drops(3, 3, 3, 1, 2)", 1).is("drops(3, 3, 3, 1, 3)", 0);
   }
 
   static void terms2_spread2None() {
@@ -497,6 +510,12 @@ final class EdgesTerms {
         .is("signed(1, 0, 2)", 0).is("layer(0, 4)", 0).is("layer(1, 4)", 0).is("falls(0, 1)", 0).is("falls(0, 3)", 10);
   }
 
+  static void terms2_reopenedOne() {
+    new Script("terms: reopened, of which a layer took but 1").go("place(0, 0, 10, 1)", "place(1, 0, 10, 1)", "sign(0, 1, 10)", "harm(0, 0, 1, 1)")
+        .is("layer(0, 4)", 1).is("signed(0, 0, 2)", 1).go("rules(1, 0, 0)").is("reopen(0)", 1).is("layer(0, 4)", 0).is("layer(0, 5)", 10)
+        .is("signed(0, 0, 2)", 0).is("layer(1, 4)", 1).is("bears(0, 1)", 0);
+  }
+
   static void terms2_reopenedInOneAmount() {
     terms("then all of its LOSS, in one amount, is SPREAD, by RULES as they are then, and by who is SOUND then")
         .go("place(0, 0, 10, 1)", "place(1, 0, 10, 1)", "sign(0, 1, 10)", "harm(0, 1, 1, 1)", "grow(0, 1)").is("took(0, 0)", 2)
@@ -535,6 +554,36 @@ final class EdgesTerms {
         // Without layer 0 all below 10 is a hole; layer 1 is what was signed, and harm 1 what grew.
         .is("insurer(5, 0)", 18).is("undone(0)", 0).is("without(0, 5)", 17).is("undone(3)", 0).is("without(3, 5)", 17)
         .is("without(4, 5)", 0).is("undone(4)", 1).is("shift(0, 6, 5)", 17).is("shift(0, 2, 5)", 18);
+  }
+
+  static void terms3_fromNothingOn() {
+    // What one going over came to is not there for the next one, in whatever order they are asked.
+    terms("from nothing on").go("place(0, 0, 10, 1)", "sign(0, 1, 10)", "harm(0, 0, 0, 4)", "grow(0, 3)", "fall(2)", "settle(1, 2)")
+        .is("other(0, 0, 0, 1)", 7).is("undone(0)", 1).is("undone(2)", 1).is("undone(0)", 1).is("without(0, 1)", 0).is("without(2, 1)", 0)
+        .is("undone(2)", 1).is("without(3, 1)", 4).is("undone(4)", 0).is("shift(0, 6, 1)", 0).is("shift(2, 6, 1)", 0).is("after(0, 1)", 0)
+        .is("after(2, 1)", 4).is("other(3, 3, 3, 1)", 7).is("after(1, 1)", 0).is("usedUp(0)", -1).is("without(4, 0)", 0).is("after(5, 1)", 7)
+        .is("undone(1)", 0).is("undone(0)", 1).is("without(1, 0)", 7).is("without(0, 0)", 7).is("undone(0)", 1);
+    new Script("terms: gone over again and again").go("lack(5)", "place(0, 0, 3, 1)", "harm(0, 0, 0, 3)", "place(1, 0, 3, 1)", "harm(1, 1, 1, 3)")
+        .is("usedUp(0)", 2).is("usedUp(0)", 2).is("usedUp(1)", 4).is("usedUp(1)", 4).is("undone(0)", 0).is("usedUp(1)", 4).is("usedUp(0)", 2);
+  }
+
+  static void terms3_goneOverFull() {
+    // 40 layers, the last one signed by four, and 24 harms: all of them are gone over, reopened, and asked.
+    Script s = new Script("terms: a full desk gone over").go(Desks.layers(39)).go("place(11, 0, 20, 4)", "sign(39, 9, 1)", "sign(39, 8, 2)",
+        "sign(39, 7, 3)", "sign(39, 0, 4)").go(Desks.times(24, "harm(11, 11, 11, 1)"));
+    // One by ten tenths: all are cut to nothing, and the one is for the first one that signed.
+    s.is("insurer(9, 0)", 24).is("layer(39, 4)", 24).is("told(10)", 1 + 128 + 256 + 512).is("insurer(9, 4)", 5).is("insurer(0, 4)", 22)
+        .is("reopen(23)", 0).is("grow(23, 9)", 3).is("reopen(23)", 1).is("layer(39, 4)", 33).is("signed(39, 0, 2)", 24).is("signed(39, 3, 2)", 4)
+        .is("bears(23, 9)", 1).is("bears(23, 8)", 2).is("bears(23, 7)", 3).is("bears(23, 0)", 4).is("insurer(0, 0)", 4)
+        .is("other(0, 0, 0, 9)", 24).is("other(2, 2, 1, 0)", 4).is("other(1, 3, 0, 7)", 3).is("undone(39)", 4).is("without(39, 0)", 33)
+        .is("undone(67)", 3).is("without(67, 9)", 23).is("heaviest(0, 0)", 23).is("heaviest(0, 1)", 0).is("best(9, 3)", 24);
+  }
+
+  static void terms3_fullReopened() {
+    Script s = new Script("terms: a harm of a full desk reopened beside others").go(Desks.layers(40)).go("harm(0, 6, 6, 70)", "harm(0, 0, 0, 7)");
+    s.is("took(0, 0)", 10).is("took(1, 0)", 0).is("took(1, 1)", 7).go("rules(1, 0, 0)").is("reopen(0)", 0).is("took(0, 36)", 10)
+        .is("took(0, 0)", 0).is("layer(0, 4)", 0).is("reopen(1)", 0).is("took(1, 0)", 7).is("reopen(0)", 0).is("took(1, 0)", 7)
+        .is("layer(0, 4)", 7).is("took(0, 39)", 10).is("falls(0, 2)", 30);
   }
 
   static void terms3_byToldRules() {

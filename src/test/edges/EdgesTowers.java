@@ -141,7 +141,8 @@ final class EdgesTowers {
 
   static void promise51_goneOverIsNotRefused() {
     // Gone over without the place, sign() can't be done; that is no call.
-    new Script("promise 51: what is left out when gone over").go("place(0, 0, 9, 1)", "sign(0, 1, 1)", "harm(0, 0, 0, 1)", "grow(0, 1)", "settle(1, 1)")
+    new Script("promise 51: what is left out when gone over")
+        .go("place(0, 0, 9, 1)", "sign(0, 1, 1)", "harm(0, 0, 0, 1)", "grow(0, 1)", "settle(1, 1)")
         .is("undone(0)", 1).is("without(0, 0)", 2).is("undone(2)", 1).is("shift(2, 5, 0)", 1).is("spared(1)", -1).is("heaviest(0, 1)", 0)
         .is("best(0, 3)", 1 + 1).is("usedUp(0)", -1).is("status(0)", 0).is("status(1)", 0).is("status(2)", 0);
   }
